@@ -25,6 +25,9 @@ public final class CrowFences {
     private static final int MOST_SITS = 6;
     private static final int MOST_ENTRIES = 15;
     private static final int SETS_OF_POSTS = 64;
+    private static final int UNTRIED = 0;
+    private static final int OPENS = 1;
+    private static final int CLOSES = 2;
     // Six posts and five crows have 4051 ways; the bound only shows that the loops over them end.
     private static final int MOST_WAYS = 5000;
 
@@ -512,6 +515,10 @@ public final class CrowFences {
             return false;
         }
 
+        int allCells() {
+            return (1 << cells) - 1;
+        }
+
         int allPosts() {
             return (1 << posts) - 1;
         }
@@ -812,26 +819,17 @@ public final class CrowFences {
             if (Math.abs(wind) > plan.strongestHarmless) {
                 standing &= letPosts;
             }
-            if (wind == 0) {
-                for (int a = 0; a < plan.cells; a++) {
-                    pile(a, fall);
-                }
-            } else {
-                sweep(plan, wind > 0, fall);
-            }
-            hours++;
-        }
-
-        private void sweep(Plan plan, boolean right, int fall) {
-            int fenced = fencedCells(plan.posts);
+            // Without wind each cell keeps all that comes to it, as one with a fence does.
+            int keepers = wind == 0 ? plan.allCells() : fencedCells(plan.posts);
             int blown = 0;
             for (int k = 0; k < plan.cells; k++) {
-                int a = right ? k : plan.cells - 1 - k;
+                int a = wind < 0 ? plan.cells - 1 - k : k;
                 int comes = fall + blown;
-                int kept = (fenced >> a & 1) != 0 ? comes : comes / 2;
-                pile(a, kept);
+                int kept = (keepers >> a & 1) != 0 ? comes : comes / 2;
+                snow[a] = Math.min(MOST_SNOW, snow[a] + kept);
                 blown = comes - kept;
             }
+            hours++;
         }
 
         private int fencedCells(int posts) {
@@ -842,10 +840,6 @@ public final class CrowFences {
                 }
             }
             return set;
-        }
-
-        private void pile(int a, int more) {
-            snow[a] = Math.min(MOST_SNOW, snow[a] + more);
         }
     }
 
@@ -909,6 +903,7 @@ public final class CrowFences {
     /** Goes through all ways to let posts: post by post the lesser crow first, nobody last. */
     private static final class Ways {
         final int[] crowOn = new int[MOST_POSTS];
+        int letPosts;
         boolean ended;
         private int posts;
         private int crows;
@@ -917,6 +912,7 @@ public final class CrowFences {
         void begin(Plan plan) {
             posts = plan.posts;
             crows = plan.crows;
+            letPosts = 0;
             taken = 0;
             ended = false;
             settle(0, 0);
@@ -927,6 +923,7 @@ public final class CrowFences {
                 int crow = crowOn[p];
                 if (crow != NONE) {
                     taken &= ~(1 << crow);
+                    letPosts &= ~(1 << p);
                     settle(p, crow + 1);
                     return;
                 }
@@ -934,23 +931,14 @@ public final class CrowFences {
             ended = true;
         }
 
-        int letPosts() {
-            int set = 0;
-            for (int p = 0; p < posts; p++) {
-                if (crowOn[p] != NONE) {
-                    set |= 1 << p;
-                }
-            }
-            return set;
-        }
-
-        /** Post p gets its next crow from the given one on, each behind it the first that is left. */
+        /** Post p gets its next crow from the given one on, each behind it (let to nobody yet) the first that is left. */
         private void settle(int p, int from) {
             int least = from;
             for (int q = p; q < posts; q++) {
                 crowOn[q] = leastFree(least);
                 if (crowOn[q] != NONE) {
                     taken |= 1 << crowOn[q];
+                    letPosts |= 1 << q;
                 }
                 least = 0;
             }
@@ -970,39 +958,50 @@ public final class CrowFences {
     private static final class Letting {
         final int[] crowOn = new int[MOST_POSTS];
         int mostSpoons;
-        private final boolean[] opens = new boolean[SETS_OF_POSTS];
+        // What is known of each set of posts, so that none is tried twice.
+        private final int[] known = new int[SETS_OF_POSTS];
         private final Winter trial = new Winter();
         private final Ways ways = new Ways();
 
+        /** Ways come in the order of the document, so that of like ones the first stays. */
         void findMost(Plan plan, Winter now, int n) {
-            mostSpoons = NONE;
-            for (int p = 0; p < MOST_POSTS; p++) {
-                crowOn[p] = NONE;
-            }
-            for (int set = 0; set <= plan.allPosts(); set++) {
-                opens[set] = Integer.bitCount(set) <= plan.crows && staysOpen(plan, now, set, n);
-            }
+            forget();
             ways.begin(plan);
             for (int k = 0; k < MOST_WAYS && !ways.ended; k++) {
-                if (opens[ways.letPosts()]) {
-                    weigh(plan, now);
+                int sum = spoonsOfWay(plan, now);
+                if (sum > mostSpoons && opensBy(plan, now, ways.letPosts, n)) {
+                    mostSpoons = sum;
+                    System.arraycopy(ways.crowOn, 0, crowOn, 0, plan.posts);
                 }
                 ways.advance();
             }
         }
 
-        /** Ways come in the order of the document, so that of like ones the first stays. */
-        private void weigh(Plan plan, Winter now) {
+        private void forget() {
+            mostSpoons = NONE;
+            for (int p = 0; p < MOST_POSTS; p++) {
+                crowOn[p] = NONE;
+            }
+            for (int set = 0; set < SETS_OF_POSTS; set++) {
+                known[set] = UNTRIED;
+            }
+        }
+
+        private int spoonsOfWay(Plan plan, Winter now) {
             int sum = 0;
             for (int p = 0; p < plan.posts; p++) {
                 if (ways.crowOn[p] != NONE) {
                     sum += now.worthOf(plan, p, ways.crowOn[p]);
                 }
             }
-            if (sum > mostSpoons) {
-                mostSpoons = sum;
-                System.arraycopy(ways.crowOn, 0, crowOn, 0, plan.posts);
+            return sum;
+        }
+
+        private boolean opensBy(Plan plan, Winter now, int letPosts, int n) {
+            if (known[letPosts] == UNTRIED) {
+                known[letPosts] = staysOpen(plan, now, letPosts, n) ? OPENS : CLOSES;
             }
+            return known[letPosts] == OPENS;
         }
 
         int fewestPosts(Plan plan, Winter now, int n) {
