@@ -342,9 +342,9 @@ public final class CrowFencesPromises {
         feedAll(x, "w3 1 1;");
         x.plateau();
         due("fault() of none", x.fault(), NONE);
-        feedAll(x, "w");
+        feedAll(x, "w3 1 1");
         x.plateau();
-        due("fault() at the end", x.fault(), 1);
+        due("fault() at the end, whatever stood there ahead of it", x.fault(), 6);
         x.plateau();
         due("fault() of nothing", x.fault(), NONE);
     }
@@ -883,6 +883,9 @@ public final class CrowFencesPromises {
         due("fewest(1)", x.fewest(1), 0);
         x = made("w2 0 0;r0;h9 1;");
         due("lets(1, NONE) without posts", x.lets(1, NONE), NONE);
+        x = made("w2 0 1;r0;p1 1;h9 1;");
+        due("lets(2, NONE)", x.lets(2, NONE), NONE);
+        due("lets(1, NONE) behind one that found none", x.lets(1, NONE), 0);
         x = made("w2 0 1;r0;p0 1;h9 1;");
         due("lets(1, NONE) without crows", x.lets(1, NONE), 0);
         due("lets(1, 0) without crows", x.lets(1, 0), NONE);
@@ -1073,6 +1076,7 @@ public final class CrowFencesPromises {
         due("fit(0)", x.fit(0), 4051);
         x.see(4, 5);
         due("fit(0)", x.fit(0), 5 * 501);
+        due("fit(1)", x.fit(1), 0);
         x = made("w6 0 0;p0 0;p1 0;c0 0;c0 0;");
         x.see(0, 0);
         x.see(1, 0);
