@@ -46,6 +46,7 @@ public final class CrowFencesBounds {
         hoursAbove9000();
         driftAbove9000();
         letAndPaid();
+        spoonsAre999999AtMost();
         movedToTheEnds();
         thawFrom1To99();
         thawTo0();
@@ -60,6 +61,7 @@ public final class CrowFencesBounds {
         letsFrom1To40();
         letsNone();
         letsOfNobody();
+        letsOfAllPosts();
         letsAnew();
         fewestFrom1To40();
         fewestFromNoneToAll();
@@ -488,15 +490,30 @@ public final class CrowFencesBounds {
         due("giveUp(0)", x.giveUp(0), NOT);
         due("giveUp(1)", x.giveUp(1), 1);
         due("giveUp(2)", x.giveUp(2), UNKNOWN);
+    }
 
-        // 200 times 180 and as often given up: the sum goes on, far below 999999.
-        x = made("w1 0 0;p0 9;c99 9;");
-        for (int k = 1; k <= 200; k++) {
+    /** In 512 calls there cannot be that many: only one that is used for more shows that the sum does not go on. */
+    private static void spoonsAre999999AtMost() {
+        sentence = "SPOONS, 999999 at most";
+        CrowFences x = made("w1 0 0;p0 9;c99 9;c99 0;c1 0;");
+        for (int k = 0; k < 5555; k++) {
             x.let(0, 0);
             x.giveUp(0);
         }
-        due("told(6)", x.told(6), 36000);
-        due("crow(0, 3)", x.crow(0, 3), 36000);
+        due("told(6)", x.told(6), 999900);
+        x.keep(0);
+        due("let(0, 1)", x.let(0, 1), 99);
+        due("told(6) of as many", x.told(6), 999999);
+        x.giveUp(0);
+        due("let(0, 2)", x.let(0, 2), 1);
+        due("told(6) of one more", x.told(6), 999999);
+        due("crow(2, 3)", x.crow(2, 3), 1);
+        x.goBack(0);
+        due("let(0, 0)", x.let(0, 0), 180);
+        due("told(6)", x.told(6), 999999);
+        due("crow(0, 3)", x.crow(0, 3), 999999);
+        due("undo()", x.undo(), 0);
+        due("told(6)", x.told(6), 999900);
     }
 
     private static void movedToTheEnds() {
@@ -658,6 +675,12 @@ public final class CrowFencesBounds {
         x = made("w1 0 99;r0;p0 2;h9 1;");
         due("lets(1, NONE): none that bids", x.lets(1, NONE), 0);
         due("lets(1, 0): nobody", x.lets(1, 0), NONE);
+        // 9 come to cell 2, 7 if the fence stands: it does not, with nobody to be LET to.
+        x = made("w3 0 7;r2;p0 0;h18 10;");
+        due("lets(1, NONE): none that bids, and not open", x.lets(1, NONE), NONE);
+        x = made("w3 0 7;r2;p0 0;c0 0;h18 10;");
+        due("lets(1, NONE): open by one that bids nothing", x.lets(1, NONE), 0);
+        due("lets(1, 0)", x.lets(1, 0), 0);
         x = made("w1 0 99;r0;c3 4;h9 1;");
         due("lets(1, NONE): no POST", x.lets(1, NONE), 0);
         x = made("w1 0 0;r0;c3 4;h9 1;");
@@ -683,6 +706,34 @@ public final class CrowFencesBounds {
         due("lets(1, NONE)", x.lets(1, NONE), 19);
         due("lets(1, 0)", x.lets(1, 0), 1);
         due("lets(1, 1)", x.lets(1, 1), 0);
+    }
+
+    private static void letsOfAllPosts() {
+        sentence = "LETS: so that the ROAD is OPEN and SPOONS together are most";
+        // Each road cell gets 5 right behind a fence that stands, 7 or more without it: all must be LET.
+        String six = "w12 0 5;r1;r3;r5;r7;r9;r11;p0 1;p2 2;p4 3;p6 4;p8 5;p10 6;h18 10;c0 0;c0 1;c0 2;c0 3;";
+        CrowFences x = made(six + "c0 4;");
+        due("lets(1, NONE): six POSTS, five CROWS", x.lets(1, NONE), NONE);
+        due("lets(1, 5)", x.lets(1, 5), NONE);
+        String five = "w10 0 5;r1;r3;r5;r7;r9;p0 1;p2 2;p4 3;p6 4;p8 5;h18 10;c0 0;c0 1;c0 2;c0 3;";
+        x = made(five);
+        due("lets(1, NONE): five POSTS, four CROWS", x.lets(1, NONE), NONE);
+        x = made(five + "c0 4;");
+        due("lets(1, NONE)", x.lets(1, NONE), 2 + 2 * 3 + 3 * 4 + 4 * 5);
+        for (int p = 0; p < 5; p++) {
+            due("lets(1, " + p + ")", x.lets(1, p), p);
+        }
+        due("lets(2, NONE)", x.lets(2, NONE), NONE);
+
+        // A fence on the ROAD keeps too much: the one that bids most there stays without a POST.
+        x = made("w3 0 7;r1;p1 9;p0 0;c9 9;c1 0;h18 10;");
+        due("lets(1, NONE)", x.lets(1, NONE), 9);
+        due("lets(1, 0)", x.lets(1, 0), NONE);
+        due("lets(1, 1)", x.lets(1, 1), 0);
+        x = made("w3 0 10;r1;p1 9;p0 0;c9 9;c1 0;h18 10;");
+        due("lets(1, NONE) with D of 10", x.lets(1, NONE), 91);
+        due("lets(1, 0) with D of 10", x.lets(1, 0), 0);
+        due("lets(1, 1) with D of 10", x.lets(1, 1), 1);
     }
 
     private static void letsAnew() {
