@@ -8,6 +8,7 @@ import java.nio.file.Files;
 import java.nio.file.Path;
 import java.util.ArrayList;
 import java.util.List;
+import java.util.Map;
 import java.util.Set;
 import java.util.TreeSet;
 import java.util.regex.Matcher;
@@ -22,7 +23,12 @@ public final class CrowFencesLanguage {
             "int worth(int,int)", "int lets(int,int)", "int fewest(int)", "int yard(int,int,int)", "int out(int,int)",
             "int still(int,int)", "int see(int,int)", "int sublets(int)", "int fit(int)", "int write(int,int)",
             "int tear()", "int judge()", "int seed(int)", "int keep(int)", "int goBack(int)"));
-    private static final Set<String> CONSTANTS = Set.of("NONE", "UNKNOWN", "OUTSIDE", "NOT", "FULL");
+    private static final Map<String, Integer> CONSTANTS = Map.of("NONE", -1, "UNKNOWN", -1000000001,
+            "OUTSIDE", -1000000002, "NOT", -1000000003, "FULL", -1000000004);
+    private static final Set<Class<?>> NUMBERS = Set.of(int.class, long.class, short.class, byte.class, char.class,
+            boolean.class);
+    private static final Set<String> LIBRARY = Set.of("Math.min", "Math.max", "Math.abs", "Integer.bitCount",
+            "System.arraycopy");
     private static final String[] NEVER = {"throw", "throws", "try", "catch", "synchronized", "assert", "import", "package",
         "transient", "volatile", "native", "goto", "Object", "Exception", "Random", "Thread", "System\\.(?!arraycopy)"};
 
@@ -30,7 +36,9 @@ public final class CrowFencesLanguage {
 
     public static void main(String[] args) throws Exception {
         theFace();
+        theConstants();
         theClassesInside();
+        theTypes();
         theSource(withoutComments(Files.readString(Path.of("src/main/java/CrowFences.java"), StandardCharsets.UTF_8)));
         whatCallsMake();
         System.out.println(wrong == 0 ? "the form is as due" : wrong + " faults of form");
@@ -69,7 +77,7 @@ public final class CrowFencesLanguage {
         due(seen.equals(FACE), "the public methods are " + seen);
         for (Field field : CrowFences.class.getDeclaredFields()) {
             int is = field.getModifiers();
-            due(Modifier.isPrivate(is) || CONSTANTS.contains(field.getName()) && Modifier.isPublic(is), field + " can be seen");
+            due(Modifier.isPrivate(is) || CONSTANTS.containsKey(field.getName()) && Modifier.isPublic(is), field + " can be seen");
             due(!Modifier.isStatic(is) || Modifier.isFinal(is), field + " is static and not final");
         }
         for (Constructor<?> constructor : CrowFences.class.getDeclaredConstructors()) {
@@ -77,6 +85,15 @@ public final class CrowFencesLanguage {
         }
         due(Modifier.isFinal(CrowFences.class.getModifiers()), "the class is not final");
         namesInside(publicNames);
+    }
+
+    private static void theConstants() throws Exception {
+        for (Map.Entry<String, Integer> each : CONSTANTS.entrySet()) {
+            Field field = CrowFences.class.getField(each.getKey());
+            due(field.getType() == int.class && Modifier.isStatic(field.getModifiers()) && Modifier.isFinal(field.getModifiers()),
+                field + " is no constant");
+            due(field.getInt(null) == each.getValue(), field + " is " + field.getInt(null));
+        }
     }
 
     private static void namesInside(Set<String> publicNames) {
@@ -114,6 +131,19 @@ public final class CrowFencesLanguage {
         }
     }
 
+    /** Numbers, the program's own classes, rows of either; what is static is a number. */
+    private static void theTypes() {
+        List<Class<?>> own = all(CrowFences.class);
+        for (Class<?> each : own) {
+            for (Field field : each.getDeclaredFields()) {
+                Class<?> type = field.getType();
+                Class<?> single = type.isArray() ? type.getComponentType() : type;
+                due(NUMBERS.contains(single) || own.contains(single), field + " is of a type that is not used here");
+                due(!Modifier.isStatic(field.getModifiers()) || type == int.class, field + " is static and no int");
+            }
+        }
+    }
+
     private static String withoutComments(String source) {
         return source.replaceAll("(?s)/\\*.*?\\*/", "").replaceAll("//[^\n]*", "");
     }
@@ -122,6 +152,10 @@ public final class CrowFencesLanguage {
         for (String word : NEVER) {
             Matcher found = Pattern.compile("(?<![A-Za-z0-9_])" + word + "(?![A-Za-z0-9_])").matcher(source);
             due(!found.find(), "'" + word + "' stands in the source");
+        }
+        Matcher library = Pattern.compile("(?<![A-Za-z0-9_.])[A-Z][A-Za-z]*\\.[a-z][A-Za-z]*").matcher(source);
+        while (library.find()) {
+            due(LIBRARY.contains(library.group()), library.group() + " stands in the source");
         }
         due(!source.contains("->") && !source.contains("::"), "a lambda or a method reference stands in the source");
         due(!source.contains("\""), "a text stands in the source");
