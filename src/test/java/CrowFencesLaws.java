@@ -3,10 +3,10 @@ import java.util.List;
 import java.util.function.ToIntFunction;
 
 /**
- * What must hold wherever promises meet, on every state that up to two calls (up to three for what is undone and for
- * images) make of two plateaus: what is TRIED is what comes if it is done; undo(), goBack() and a plateau() with a FAULT
- * bring or leave all as it was; a plateau() without one begins as a new object does. No answer is reckoned here: one
- * call is held against others. Each object is asked less than 512 times.
+ * What must hold wherever promises meet, in each state that up to two of the 19 calls below make of two plateaus (up to
+ * three, on the lesser one, for what is brought back or left as it was): what is TRIED is what comes if it is done;
+ * undo(), goBack() and a plateau() with a FAULT bring or leave all as it was; a plateau() without one begins as a new
+ * object does. No answer is reckoned here: one call is held against others. Each object is asked less than 512 times.
  */
 public final class CrowFencesLaws {
     private static final int NONE = -1, NOT = -1000000003, LEAST_REFUSAL = -1000000004, MOST_REFUSAL = -1000000001;

@@ -1,6 +1,6 @@
 /**
- * Runs of calls in which promises meet, with answers reckoned by hand: what is LET, GIVEN UP, MOVED, SHOUTED, thawed or
- * blown ahead of what is TRIED, of an undo(), of a keep() and goBack(), of a plateau() with and without a FAULT.
+ * Runs of calls in which promises meet, each told with how its answers come about: what is LET, GIVEN UP, MOVED, SHOUTED,
+ * thawed or blown ahead of what is TRIED, of an undo(), of a keep() and goBack(), of a plateau() with and without a FAULT.
  */
 public final class CrowFencesMeetings {
     private static final int NONE = -1, UNKNOWN = -1000000001, NOT = -1000000003;
